@@ -584,6 +584,10 @@ public final class PromiseTest {
         BitRecogniser z = overgrown();
         due("too many", z.trees(0, 0, 14), -7);
         due("not yet", z.trees(2, 0, 1), 5);
+        // A by its pairs has too many, by D 742900 more
+        BitRecogniser more = grammar(LONGEST, "Aa", "Ba", "AAA", "AAB", "ABA", "ABB", "BAA", "BAB", "BBA", "BBB", "AB", "BA", "AD", "DDD", "Da");
+        due("too many and some more", more.trees(0, 0, 14), -7);
+        due("those alone", more.trees(3, 0, 14), 742900);
         due("a helper's too many by none", grammar("aaaaaaaaaaaaaa", "CAAb", "Aa").trees(2, 0, 14), 0);
     }
 
@@ -696,6 +700,13 @@ public final class PromiseTest {
             due("tree(" + m + ", -1, 0) of units", u.tree(m, -1, 0), sizes[m]);
         }
         due("the last rule of tree 2", u.tree(2, 2, 0), 5);
+        // twelve letters by B, each of which can also go by C: tree m has C where m has a bit
+        BitRecogniser b = grammar("aaaaaaaaaaaaa", "AABBBB", "Aa", "Ba", "BC", "Ca");
+        due("no C", b.tree(0, -1, 0), 16);
+        due("C at the last", b.tree(1, 15, 0), 3);
+        due("C at the first", b.tree(2048, 4, 0), 3);
+        due("C everywhere", b.tree(4095, -1, 0), 28);
+        due("tree 4096", b.tree(4096, -1, 0), -3);
     }
 
     private static int endOfSecond(BitRecogniser x, int m) {
@@ -876,6 +887,11 @@ public final class PromiseTest {
         due("shapes(-1, 15)", x.shapes(-1, 15), -2);
         due("shapes(8, 1)", x.shapes(8, 1), -2);
         due("too many", overgrown().shapes(0, 14), -7);
+        // reckoned by Oracle, which counts without a limit
+        BitRecogniser y = grammar("", "Aa", "Ba", "ABA", "AAA", "BBB", "BBA", "ABB", "Ae", "Bc", "Bf", "AB", "BA", "CAc");
+        due("nearly too many", y.shapes(0, 11), 8008956909179687500L);
+        due("nearly too many, times one", y.shapes(2, 12), 8008956909179687500L);
+        due("one letter more", y.shapes(0, 12), -7);
         due("the word is no matter", wound("ff").shapes(0, 5), 2);
     }
 
@@ -982,12 +998,20 @@ public final class PromiseTest {
         due("copy", x.copy(0, 2, 0), 3);
         due("tray(0, 21)", x.tray(0, 21), -3);
         due("the tray stays", x.number(0, 2), 257);
+        due("copy", x.copy(0, 0, 1), 2);
         due("tray(0, 5)", x.tray(0, 5), 0);
         for (int i = 0; i < 5; i++) {
             due("all 0", x.number(0, i), 0);
         }
         due("number(0, 5)", x.number(0, 5), -7);
         due("the others stay", x.number(2, 0), -6);
+        x.tray(1, 20);
+        x.copy(1, 0, 0);
+        x.copy(1, 17, 0);
+        x.tray(0, 20);
+        x.tray(2, 20);
+        due("the next one stays", x.number(1, 0), 257);
+        due("the one ahead stays", x.number(1, 19), 1);
     }
 
     private static void copies() {
@@ -1108,6 +1132,24 @@ public final class PromiseTest {
         due("count(6)", x.count(6), 7);
         due("undo(7)", x.undo(7), 0);
         due("count(5)", x.count(5), 2);
+        due("undo(1)", x.undo(1), -3);
+        for (int ahead = 0; ahead < 12; ahead++) {
+            undoOneByOne(ahead);
+        }
+    }
+
+    private static void undoOneByOne(int ahead) {
+        BitRecogniser x = new BitRecogniser();
+        for (int k = 0; k < ahead; k++) {
+            word(x, "f");
+        }
+        for (int k = 0; k <= 12; k++) {
+            word(x, LONGEST.substring(0, k));
+        }
+        for (int k = 9; k >= 0; k--) {
+            due("undo(1)", x.undo(1), k);
+            due("count(5)", x.count(5), k + 2);
+        }
         due("undo(1)", x.undo(1), -3);
     }
 
