@@ -641,7 +641,7 @@ public final class BitRecogniser {
 
     /** Only behind freshen(): the helpers must be those of the rules now. */
     private boolean isSymbol(int x) {
-        return x >= 0 && x < HELPER + binary.helperCount;
+        return x >= 0 && x < binary.symbolCount();
     }
 
     private boolean isPlace(int i) {
@@ -1076,6 +1076,10 @@ public final class BitRecogniser {
             }
         }
 
+        int symbolCount() {
+            return HELPER + helperCount;
+        }
+
         /** What only the rules that stand are asked for, not those less one. */
         void measure() {
             measureLengths();
@@ -1089,7 +1093,7 @@ public final class BitRecogniser {
         }
 
         private void measureLengths() {
-            for (int x = 0; x < SYMBOLS; x++) {
+            for (int x = 0; x < symbolCount(); x++) {
                 putInt(leastLengths, x, x >= NAMES && x < HELPER ? 1 : NONE);
             }
             fruitful = LETTER_BITS;
@@ -1367,8 +1371,9 @@ public final class BitRecogniser {
         }
 
         private void fillSpan(int i, int j) {
-            for (int x = 0; x < fresh.length; x++) {
-                fresh[x] = nothing;
+            int symbols = binary.symbolCount();
+            for (int x = 0; x < symbols; x++) {
+                putLong(fresh, x, nothing);
             }
             if (j - i == 1) {
                 takeLetters(i);
@@ -1378,8 +1383,8 @@ public final class BitRecogniser {
             }
             takeUnits(slotOf(i, j, alike));
             int at = slotOf(i, j, alike) * SYMBOLS;
-            for (int x = 0; x < fresh.length; x++) {
-                putLong(values, at + x, fresh[x]);
+            for (int x = 0; x < symbols; x++) {
+                putLong(values, at + x, longAt(fresh, x));
             }
         }
 
@@ -1440,7 +1445,7 @@ public final class BitRecogniser {
 
         long greatestAt(int i, int j) {
             long greatest = NONE;
-            for (int x = 0; x < SYMBOLS; x++) {
+            for (int x = 0; x < binary.symbolCount(); x++) {
                 greatest = Math.max(greatest, valueAt(x, i, j));
             }
             return greatest;
@@ -1634,13 +1639,13 @@ public final class BitRecogniser {
         }
 
         /** With the rank of its tree among those it could have, which is what rank says now. */
-        private void putWaiting(int x, int from, int to, int barred, int above) {
+        private void putWaiting(int x, int begin, int end, int noMore, int parent) {
             int at = waitingCount * WAITING_WIDE;
             putInt(waiting, at, x);
-            putInt(waiting, at + 1, from);
-            putInt(waiting, at + 2, to);
-            putInt(waiting, at + 3, barred);
-            putInt(waiting, at + 4, above);
+            putInt(waiting, at + 1, begin);
+            putInt(waiting, at + 2, end);
+            putInt(waiting, at + 3, noMore);
+            putInt(waiting, at + 4, parent);
             putLong(waitingRanks, waitingCount, rank);
             waitingCount++;
         }
