@@ -1,8 +1,7 @@
 /** For each promise of the document its ordinary answers, its edges and its refusals, reckoned by hand. */
-public final class PromiseTest {
+public final class PromiseTest extends Sample {
     private static final int[] WRONG_SYMBOLS = {-1, -2, 14, 62, 63, 64, 127, Integer.MAX_VALUE, Integer.MIN_VALUE};
     private static final int[] WRONG_NAMES = {-1, -2, 8, 13, 14, 32, Integer.MAX_VALUE, Integer.MIN_VALUE};
-    private static final String LONGEST = "aaaaaaaaaaaaaa";
     private static int wrong = 0;
     private static int asked = 0;
     private static int promise = 0;
@@ -13,57 +12,6 @@ public final class PromiseTest {
             wrong++;
             System.out.println("promise " + promise + ": " + call + " answered " + got + ", due is " + want);
         }
-    }
-
-    // ---- telling
-
-    private static int four(String text, int from) {
-        int four = 0;
-        for (int p = from; p < from + 4; p++) {
-            four = four << 8 | (p < text.length() ? text.charAt(p) & 255 : 0);
-        }
-        return four;
-    }
-
-    private static void feed(BitRecogniser x, String text) {
-        x.feed(four(text, 0), four(text, 4), four(text, 8), four(text, 12), four(text, 16));
-    }
-
-    private static int rule(BitRecogniser x, String text) {
-        feed(x, text);
-        return x.rule(text.length());
-    }
-
-    private static int word(BitRecogniser x, String text) {
-        feed(x, text);
-        return x.word(text.length());
-    }
-
-    private static BitRecogniser grammar(String word, String... rules) {
-        BitRecogniser x = new BitRecogniser();
-        for (String rule : rules) {
-            rule(x, rule);
-        }
-        word(x, word);
-        return x;
-    }
-
-    /** A aBcB; B C; C B; C b; B bb. */
-    private static BitRecogniser wound(String word) {
-        return grammar(word, "AaBcB", "BC", "CB", "Cb", "Bbb");
-    }
-
-    private static BitRecogniser doubling(String word) {
-        return grammar(word, "AAA", "Aa");
-    }
-
-    /** Sixteen rules of five parts: 48 helpers. */
-    private static BitRecogniser full() {
-        BitRecogniser x = new BitRecogniser();
-        for (int r = 0; r < 16; r++) {
-            rule(x, "Aaaa" + "abcd".charAt(r / 4) + "abcd".charAt(r % 4));
-        }
-        return x;
     }
 
     // ---- rules, the word
@@ -560,11 +508,6 @@ public final class PromiseTest {
 
     // ---- trees
 
-    private static BitRecogniser overgrown() {
-        // sixteen rules that lead from nearly each one to each: far more than 2^63 trees over fourteen letters
-        return grammar(LONGEST, "Aa", "Ba", "Ca", "AAA", "AAB", "ABA", "ABB", "BAA", "BAB", "BBA", "AB", "BC", "CA", "AC", "CB", "BA");
-    }
-
     private static void treeCounts() {
         promise = 24;
         BitRecogniser x = doubling(LONGEST);
@@ -949,11 +892,6 @@ public final class PromiseTest {
         due("by parts", grammar("", "AaBf", "Bc", "Bd", "Bef", "Bfe", "Bcc").words(4), 3);
         due("the last of all", grammar("", "Affff").words(4), 1);
         due("of no rules", new BitRecogniser().words(1), 0);
-    }
-
-    private static BitRecogniser startAt(BitRecogniser x, int start) {
-        x.start(start);
-        return x;
     }
 
     private static void firstWords() {
