@@ -59,6 +59,18 @@ abstract class Sample {
         return grammar(LONGEST, "Aa", "Ba", "Ca", "AAA", "AAB", "ABA", "ABB", "BAA", "BAB", "BBA", "AB", "BC", "CA", "AC", "CB", "BA");
     }
 
+    /** H over the whole word has 9,223,372,036,854,775,807 trees; its six rules were found by a search. */
+    static BitRecogniser greatest() {
+        return startAt(grammar("aaabaaaaaabbaa", "AC", "AE", "BAA", "BEE", "Ba", "Bb", "CB", "Ca", "EB", "EC",
+                "HAaBC", "HBEABC", "HCCBEC", "HEEBEa", "HEBCBa", "HEEaBa"), 7);
+    }
+
+    /** H over the whole word has 9,223,372,036,854,775,808 trees, one too many to tell. */
+    static BitRecogniser oneTooMany() {
+        return startAt(grammar("aabaaaabaaaaaa", "AB", "Aa", "BCC", "BDD", "Ba", "Bb", "CA", "CB", "DA", "DC",
+                "HBBCDD", "HCbaC", "HADBaB", "HDbBAC", "HBABCa", "HDBbAA"), 7);
+    }
+
     static BitRecogniser startAt(BitRecogniser x, int start) {
         x.start(start);
         return x;

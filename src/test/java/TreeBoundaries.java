@@ -34,7 +34,13 @@ final class TreeBoundaries extends Boundaries {
             answers(NO_ROOM, "trees(" + x + ", 0, 14)", Sample::overgrown, y -> y.trees(x, 0, 14));
         }
         due("trees(3, 0, 14) beside it", overgrown().trees(3, 0, 14), 0);
-        due("trees(0, 0, 3), which are few", overgrown().trees(2, 0, 1), 5);
+        due("trees(2, 0, 1), which are few", overgrown().trees(2, 0, 1), 5);
+    }
+
+    @Sentence(promise = 24, words = "-7: above 9,223,372,036,854,775,807.")
+    static void asManyTreesAsALongHoldsAndOneMore() {
+        due("trees(7, 0, 14) of the greatest long", greatest().trees(7, 0, 14), Long.MAX_VALUE);
+        answers(NO_ROOM, "trees(7, 0, 14) of one more", Sample::oneTooMany, x -> x.trees(7, 0, 14));
     }
 
     // ---- Promise 25: doubtful
@@ -160,6 +166,10 @@ final class TreeBoundaries extends Boundaries {
     @Sentence(promise = 28, words = "-7: they are too many to tell;")
     static void treeOfTooMany() {
         each(NO_ROOM, "tree, m", new int[] {-1, 0, 1, LEAST_INT, GREATEST_INT}, Sample::overgrown, (x, m) -> x.tree(m, NONE, 0));
+        each(NO_ROOM, "tree of one too many, m", new int[] {-1, 0, GREATEST_INT}, Sample::oneTooMany, (x, m) -> x.tree(m, 0, 0));
+        letIn("tree of as many as a long holds, m 0", greatest().tree(0, NONE, 0));
+        letIn("tree of as many as a long holds, the greatest m", greatest().tree(GREATEST_INT, NONE, 0));
+        each(NO_NUMBER, "tree of as many as a long holds, m", new int[] {-1, LEAST_INT}, Sample::greatest, (x, m) -> x.tree(m, 0, 0));
         // those of START over the whole WORD are counted alone
         BitRecogniser x = grammarBesideTooMany();
         due("trees(0, 0, 14)", x.trees(0, 0, 14), NO_ROOM);
