@@ -63,11 +63,15 @@ abstract class Boundaries extends Sample {
         for (Change change : changes) {
             want.put(change.call, change.answer);
         }
-        Map<String, Long> got = Portrait.of(x);
+        dueAlike(call, Portrait.of(x), want);
+    }
+
+    /** Of two objects all answers, by call. */
+    static void dueAlike(String when, Map<String, Long> got, Map<String, Long> want) {
         Set<String> calls = new TreeSet<>(want.keySet());
         calls.addAll(got.keySet());
         for (String after : calls) {
-            due(call + ", then " + after, got.getOrDefault(after, Long.MIN_VALUE), want.getOrDefault(after, Long.MIN_VALUE));
+            due(when + ", then " + after, got.getOrDefault(after, Long.MIN_VALUE), want.getOrDefault(after, Long.MIN_VALUE));
         }
     }
 

@@ -15,7 +15,7 @@ import java.util.regex.Pattern;
  */
 public final class BoundaryTest extends Boundaries {
     private static final int PROMISES = 49;
-    private static final Class<?>[] PARTS = {TermsBoundaries.class, TellingBoundaries.class, BinaryBoundaries.class, SpanBoundaries.class, TreeBoundaries.class, WordBoundaries.class, BackBoundaries.class};
+    private static final Class<?>[] PARTS = {TermsBoundaries.class, TellingBoundaries.class, BinaryBoundaries.class, SpanBoundaries.class, TreeBoundaries.class, WordBoundaries.class, BackBoundaries.class, AgainBoundaries.class};
     private static final String[] DOCUMENTS = {"../shared/DOC.md", "../../../shared/DOC.md"};
 
     private static String document() throws IOException {

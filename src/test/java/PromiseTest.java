@@ -330,6 +330,7 @@ public final class PromiseTest extends Sample {
         due("least of eight steps", y.least(0), 390625);
         due("least of its first helper", y.least(14), 312500);
         due("least of the last helper", y.least(37), 2);
+        due("least of a unit that leads to A", grammar("", "BA", "Aab").least(1), 2);
         BitRecogniser z = grammar("", "ABB", "BAA", "AAA", "CAa");
         due("least of what never ends", z.least(0), -1);
         due("least of what needs it", z.least(2), -1);
@@ -414,6 +415,7 @@ public final class PromiseTest extends Sample {
             due("round(0, 0, " + j + ")", y.round(0, 0, j), rounds[j - 1]);
         }
         due("units cost no round", grammar("aa", "AB", "BC", "CDD", "Da").round(0, 0, 2), 1);
+        due("a unit that leads to A", grammar("abb", "BA", "AaC", "Cbb").round(1, 0, 3), 2);
         due("one letter at a time", grammar("aaaaaa", "AaA", "Aa").round(0, 0, 6), 5);
     }
 
@@ -585,6 +587,8 @@ public final class PromiseTest extends Sample {
         // A B would come back to A, so rule 0 has no tree
         checkNodes(grammar("aa", "AB", "BA", "Aaa"), new int[][] {{2, 0, 2, -1, 0}});
         checkNodes(grammar("aa", "AB", "BA", "ABB", "Ba"), new int[][] {{2, 0, 2, -1, 0}, {3, 0, 1, 0, 1}, {3, 1, 2, 0, 1}});
+        checkNodes(startAt(grammar("aa", "BA", "AB", "Aaa"), 1), new int[][] {{0, 0, 2, -1, 0}, {2, 0, 2, 0, 1}});
+        checkNodes(startAt(grammar("aab", "CBb", "BA", "AB", "Aaa"), 2), new int[][] {{0, 0, 3, -1, 0}, {1, 0, 2, 0, 1}, {3, 0, 2, 1, 2}});
         // the same where the trees are too many to tell: A over all by B, C, A is none, by A A the first
         checkNodes(overgrown(), new int[][] {{3, 0, 14, -1, 0}, {0, 0, 1, 0, 1}, {3, 1, 14, 0, 1}, {0, 1, 2, 2, 2}});
     }
@@ -701,6 +705,14 @@ public final class PromiseTest extends Sample {
             due("form(27, " + i + ")", y.form(27, i), 8);
         }
         due("form(27, 14)", y.form(27, 14), -1);
+        // what stands behind the leftmost one moves on
+        int[][] moved = {{0}, {1, 2, 9}, {8, 8, 8, 2, 9}, {8, 8, 8, 10, 10, 9}};
+        BitRecogniser z = grammar("aaaccb", "ABCb", "Baaa", "Ccc");
+        for (int m = 0; m < moved.length; m++) {
+            for (int i = 0; i < moved[m].length; i++) {
+                due("form(" + m + ", " + i + ") of what moves on", z.form(m, i), moved[m][i]);
+            }
+        }
     }
 
     private static void formLengths() {
@@ -776,6 +788,9 @@ public final class PromiseTest extends Sample {
         for (String text : bad) {
             due("viable() of " + text, wound(text).viable(), 0);
         }
+        due("of another START", startAt(wound("b"), 1).viable(), 1);
+        due("of another START, not so", startAt(wound("a"), 1).viable(), 0);
+        due("of the last START", startAt(grammar("a", "Hab"), 7).viable(), 1);
         due("START without a word", grammar("a", "AaA").viable(), 0);
         due("no rules", new BitRecogniser().viable(), 0);
         due("what stands behind must end", grammar("a", "AaB", "BBB").viable(), 0);
@@ -792,6 +807,8 @@ public final class PromiseTest extends Sample {
         due("behind abcb", wound("abcb").next(), 512);
         due("behind abcbb", wound("abcbb").next(), 0);
         due("behind none", wound("b").next(), 0);
+        due("of another START", startAt(wound(""), 1).next(), 512);
+        due("of the last START", startAt(grammar("a", "Hab", "Hac"), 7).next(), 1536);
         due("a fifteenth letter", grammar(LONGEST, "AaA", "Aa", "Af").next(), 8448);
         due("what stands behind must end", grammar("a", "AaB", "BBB", "Aac").next(), 1024);
         due("all six", grammar("", "AaA", "Ab", "Ac", "Ad", "Ae", "Af").next(), 16128);
@@ -848,6 +865,7 @@ public final class PromiseTest extends Sample {
         due("fourteen", doubling("bbbbbbbbbbbbbb").changes(), 14);
         due("the nearer one", grammar("bba", "Aaaa", "Abbb").changes(), 1);
         due("by units", grammar("f", "AB", "BC", "Cd").changes(), 1);
+        due("by a unit that leads to A", startAt(grammar("fbf", "BA", "Aabc"), 1).changes(), 2);
     }
 
     private static void changedLetters() {
@@ -889,6 +907,10 @@ public final class PromiseTest extends Sample {
         due("none", wound("").words(3), 0);
         due("one", wound("").words(4), 1);
         due("of another START", startAt(wound(""), 1).words(2), 1);
+        due("along a unit that leads to A", startAt(grammar("", "BA", "Aabc", "Aabd"), 1).words(3), 2);
+        due("along units", grammar("", "AB", "BC", "Cabc", "Cacb", "Cabca", "Cff").words(3), 2);
+        // abee is number 64 of all words of four letters, counted from 0
+        due("a word's bit that is carried on", grammar("", "ABe", "Babe").words(4), 1);
         due("by parts", grammar("", "AaBf", "Bc", "Bd", "Bef", "Bfe", "Bcc").words(4), 3);
         due("the last of all", grammar("", "Affff").words(4), 1);
         due("of no rules", new BitRecogniser().words(1), 0);

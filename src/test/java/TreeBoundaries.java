@@ -64,6 +64,7 @@ final class TreeBoundaries extends Boundaries {
         // a longer one begins ahead of a shorter one
         checkDoubt(grammar("bbbfa", "ABBB", "ABC", "AEB", "Bb", "Cbb", "Ebb", "Fa", "GF", "Ga"), 6, 4, 5);
         checkDoubt(doubling("baaa"), 0, 1, 4);
+        checkDoubt(grammar("a", "HA", "HB", "Aa", "Ba"), 7, 0, 1);
     }
 
     private static void checkDoubt(BitRecogniser x, int symbol, int from, int to) {

@@ -149,6 +149,8 @@ final class WordBoundaries extends Boundaries {
     static void fewestAndMostChanges() {
         due("changes() of none", wound("abcb").changes(), 0);
         due("changes() of one", wound("abcc").changes(), 1);
+        due("changes() of none, of the first LETTER alone", doubling("a").changes(), 0);
+        due("changes() of none, fourteen times the first LETTER", doubling(LONGEST).changes(), 0);
         due("changes() of fourteen", doubling("bcdefbcdefbcde").changes(), 14);
         due("changes() of one of fourteen", doubling("aaaaaaaaaaaaaf").changes(), 1);
     }
@@ -173,6 +175,8 @@ final class WordBoundaries extends Boundaries {
         due("changed(12)", y.changed(12), 8);
         due("changed(13), which can stay", y.changed(13), 13);
         due("changed(0) of one LETTER", grammar("b", "Af", "Ae").changed(0), 12);
+        due("changed(0) of none, of the first LETTER alone", doubling("a").changed(0), 8);
+        due("changed(13) of none", doubling(LONGEST).changed(13), 8);
     }
 
     @Sentence(promise = 40, words = "NONE: there is none, not so many")
@@ -199,6 +203,11 @@ final class WordBoundaries extends Boundaries {
             due("words(" + n + ") of all", anyWord("").words(n), all[n - 1]);
             due("words(" + n + ") of no RULES", new BitRecogniser().words(n), 0);
             due("words(" + n + ") of one LETTER", doubling("").words(n), 1);
+        }
+        BitRecogniser x = grammar("", "AB", "BH", "Hf", "Hff", "Hfff", "Hffff");
+        for (int n = 1; n <= 4; n++) {
+            due("words(" + n + ") of the last one, along UNITS", x.words(n), 1);
+            due("first(" + n + ", " + (n - 1) + ") of the last one, along UNITS", x.first(n, n - 1), 13);
         }
         due("words(4) of the first and the last one", grammar("", "Aaaaa", "Affff").words(4), 2);
     }
