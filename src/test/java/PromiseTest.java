@@ -589,6 +589,7 @@ public final class PromiseTest extends Sample {
         checkNodes(grammar("aa", "AB", "BA", "ABB", "Ba"), new int[][] {{2, 0, 2, -1, 0}, {3, 0, 1, 0, 1}, {3, 1, 2, 0, 1}});
         checkNodes(startAt(grammar("aa", "BA", "AB", "Aaa"), 1), new int[][] {{0, 0, 2, -1, 0}, {2, 0, 2, 0, 1}});
         checkNodes(startAt(grammar("aab", "CBb", "BA", "AB", "Aaa"), 2), new int[][] {{0, 0, 3, -1, 0}, {1, 0, 2, 0, 1}, {3, 0, 2, 1, 2}});
+        checkNodes(startAt(grammar("ab", "CaB", "BA", "Ab"), 2), new int[][] {{0, 0, 2, -1, 0}, {1, 1, 2, 0, 1}, {2, 1, 2, 1, 2}});
         // the same where the trees are too many to tell: A over all by B, C, A is none, by A A the first
         checkNodes(overgrown(), new int[][] {{3, 0, 14, -1, 0}, {0, 0, 1, 0, 1}, {3, 1, 14, 0, 1}, {0, 1, 2, 2, 2}});
     }
@@ -905,6 +906,9 @@ public final class PromiseTest extends Sample {
         due("words(MIN)", x.words(Integer.MIN_VALUE), -3);
         due("of two ways one word", grammar("", "Aa", "AB", "Ba", "ABC", "CB", "BCB").words(2), 1);
         due("none", wound("").words(3), 0);
+        due("none without a pair", grammar("", "Aa").words(2), 0);
+        due("none of the second part alone", grammar("", "Cff", "Ba", "ABC").words(2), 0);
+        due("none of the symbol behind START's", startAt(grammar("", "AC", "Ca", "Df"), 1).words(1), 0);
         due("one", wound("").words(4), 1);
         due("of another START", startAt(wound(""), 1).words(2), 1);
         due("along a unit that leads to A", startAt(grammar("", "BA", "Aabc", "Aabd"), 1).words(3), 2);
