@@ -10,12 +10,16 @@ import java.util.regex.Matcher;
 import java.util.regex.Pattern;
 
 /**
- * Runs each test of a sentence that names a boundary case, and holds them against ../shared/DOC.md: the words stand
- * there under that promise, and each code that a promise names is answered by a test of it.
+ * Runs each test of a sentence, and holds them against ../shared/DOC.md: the words stand there under that promise, no
+ * words stand there of which there is no test, and each code that a promise names is answered by a test of it.
  */
 public final class BoundaryTest extends Boundaries {
     private static final int PROMISES = 49;
-    private static final Class<?>[] PARTS = {TermsBoundaries.class, TellingBoundaries.class, BinaryBoundaries.class, SpanBoundaries.class, TreeBoundaries.class, WordBoundaries.class, BackBoundaries.class, AgainBoundaries.class};
+    private static final Class<?>[] PARTS = {TermsBoundaries.class, TellingBoundaries.class, BinaryBoundaries.class, SpanBoundaries.class, TreeBoundaries.class, WordBoundaries.class, BackBoundaries.class, AgainBoundaries.class,
+        TermsSentences.class, PromiseSentences.class};
+    /** What of the document is no sentence: headings, the face (LanguageTest has it), which calls stand under which heading. */
+    private static final String[] NO_SENTENCES = {"^# BitRecogniser ## What it is", "## The public face .*?## Terms", "==== [23]\\.",
+        "```(text)?", "The constants:", "Ahead of the calls [^.]*---- [a-z, ]*\\.", "^## Promise \\d+: [^`]*`[^`]*`:"};
     private static final String[] DOCUMENTS = {"../shared/DOC.md", "../../../shared/DOC.md"};
 
     private static String document() throws IOException {
@@ -80,6 +84,35 @@ public final class BoundaryTest extends Boundaries {
         hold(!text.contains("NONE") || codesSeen.contains(promise + ": -1"), "no test has seen NONE");
     }
 
+    /** All words of a section are those of some test. */
+    private static void checkQuoted(String text, List<Method> tests) {
+        StringBuilder left = new StringBuilder(text);
+        for (String none : NO_SENTENCES) {
+            Matcher found = Pattern.compile(none).matcher(text);
+            while (found.find()) {
+                blank(left, found.start(), found.end());
+            }
+        }
+        for (Method test : tests) {
+            Sentence sentence = test.getAnnotation(Sentence.class);
+            int at = sentence.promise() == promise ? text.indexOf(sentence.words()) : -1;
+            while (at >= 0) {
+                blank(left, at, at + sentence.words().length());
+                at = text.indexOf(sentence.words(), at + 1);
+            }
+        }
+        Matcher words = Pattern.compile("\\w[^ ]*( [^ ]+)*").matcher(left);
+        while (words.find()) {
+            hold(false, "no test has the words \"" + words.group() + "\"");
+        }
+    }
+
+    private static void blank(StringBuilder text, int from, int to) {
+        for (int at = from; at < to; at++) {
+            text.setCharAt(at, ' ');
+        }
+    }
+
     public static void main(String[] args) throws IOException, IllegalAccessException {
         String document = document();
         List<Method> tests = tests();
@@ -90,6 +123,7 @@ public final class BoundaryTest extends Boundaries {
         }
         for (promise = 0; promise <= PROMISES; promise++) {
             hold(told[promise], "no sentence has a test");
+            checkQuoted(section(document, promise), tests);
             if (promise > 0) {
                 checkCodes(section(document, promise));
             }

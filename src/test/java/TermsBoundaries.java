@@ -142,7 +142,7 @@ final class TermsBoundaries extends Boundaries {
         due("row(1, 0) of three PARTS over two LETTERS", y.row(1, 0), 0);
     }
 
-    @Sentence(promise = 0, words = "behind ROUND 0 there is what LETTERS, and UNITS alone, step by step, make so")
+    @Sentence(promise = 0, words = "ROUNDS: behind ROUND 0 there is what LETTERS, and UNITS alone, step by step, make so")
     static void unitsAloneAreOfRound0() {
         BitRecogniser x = grammar("ff", "AB", "BC", "CD", "DE", "EF", "FG", "GH", "Hf", "HHH");
         for (int name = 0; name < 8; name++) {
