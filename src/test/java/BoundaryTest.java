@@ -1,8 +1,6 @@
 import java.io.IOException;
 import java.lang.reflect.InvocationTargetException;
 import java.lang.reflect.Method;
-import java.nio.file.Files;
-import java.nio.file.Path;
 import java.util.ArrayList;
 import java.util.Comparator;
 import java.util.List;
@@ -20,17 +18,6 @@ public final class BoundaryTest extends Boundaries {
     /** What of the document is no sentence: headings, the face (LanguageTest has it), which calls stand under which heading. */
     private static final String[] NO_SENTENCES = {"^# BitRecogniser ## What it is", "## The public face .*?## Terms", "==== [23]\\.",
         "```(text)?", "The constants:", "Ahead of the calls [^.]*---- [a-z, ]*\\.", "^## Promise \\d+: [^`]*`[^`]*`:"};
-    private static final String[] DOCUMENTS = {"../shared/DOC.md", "../../../shared/DOC.md"};
-
-    private static String document() throws IOException {
-        // run from build/ci by .ci/run, from the project's folder by hand
-        for (String path : DOCUMENTS) {
-            if (Files.exists(Path.of(path))) {
-                return Files.readString(Path.of(path)).replaceAll("\\s+", " ");
-            }
-        }
-        throw new IllegalStateException("../shared/DOC.md is not found");
-    }
 
     /** What stands under a promise; 0: ahead of the first one. */
     private static String section(String document, int promise) {
@@ -114,7 +101,7 @@ public final class BoundaryTest extends Boundaries {
     }
 
     public static void main(String[] args) throws IOException, IllegalAccessException {
-        String document = document();
+        String document = Project.read("../shared/DOC.md").replaceAll("\\s+", " ");
         List<Method> tests = tests();
         boolean[] told = new boolean[PROMISES + 1];
         for (Method test : tests) {

@@ -1,11 +1,13 @@
 import java.io.IOException;
+import java.lang.reflect.Array;
 import java.lang.reflect.Field;
 import java.lang.reflect.Method;
 import java.lang.reflect.Modifier;
-import java.nio.file.Files;
-import java.nio.file.Path;
 import java.util.ArrayList;
+import java.util.Arrays;
+import java.util.IdentityHashMap;
 import java.util.List;
+import java.util.Map;
 import java.util.Set;
 import java.util.TreeSet;
 import java.util.regex.Matcher;
@@ -32,17 +34,6 @@ public final class LanguageTest {
             wrong++;
             System.out.println("LanguageTest: " + what);
         }
-    }
-
-    private static Path source() {
-        // run from build/ci by .ci/run, from the project's folder by hand
-        for (String up : new String[] {"", "../../"}) {
-            Path path = Path.of(up + "src/main/java/BitRecogniser.java");
-            if (Files.exists(path)) {
-                return path;
-            }
-        }
-        throw new IllegalStateException("src/main/java/BitRecogniser.java is not found");
     }
 
     private static String withoutComments(String text) {
@@ -108,6 +99,61 @@ public final class LanguageTest {
         }
     }
 
+    /** The face as the document writes it, each line of it. */
+    private static void checkSignatures(String document) {
+        String face = document.substring(document.indexOf("```java"), document.indexOf("## Terms"));
+        Set<String> want = new TreeSet<>();
+        Matcher lines = Pattern.compile("public (int|long) (\\w+)\\(([^)]*)\\);").matcher(face);
+        while (lines.find()) {
+            want.add(lines.group(1) + " " + lines.group(2) + "(" + lines.group(3).replaceAll(" \\w+(, |$)", "$1") + ")");
+        }
+        Set<String> found = new TreeSet<>();
+        for (Method method : BitRecogniser.class.getMethods()) {
+            if (method.getDeclaringClass() == BitRecogniser.class) {
+                String types = Arrays.toString(method.getParameterTypes());
+                found.add(method.getReturnType() + " " + method.getName() + "(" + types.substring(1, types.length() - 1) + ")");
+            }
+        }
+        hold(want.size() == FACE.split(" ").length, "the document's face has " + want.size() + " methods");
+        hold(found.equals(want), "the face is " + found + ", due is " + want);
+    }
+
+    /** Rule 12: what a new object is made of, and that calls make nothing more. */
+    private static void checkRoom() throws IllegalAccessException {
+        BitRecogniser x = Boundaries.busy();
+        Map<Object, Object> before = new IdentityHashMap<>();
+        int elements = weigh(x, before);
+        hold(elements <= 30000, "an object has " + elements + " fields and elements");
+        Portrait.of(x);
+        Map<Object, Object> after = new IdentityHashMap<>();
+        weigh(x, after);
+        hold(after.keySet().equals(before.keySet()), "calls have put another object in the place of one that was there");
+    }
+
+    private static int weigh(Object it, Map<Object, Object> met) throws IllegalAccessException {
+        if (it == null || met.put(it, it) != null) {
+            return 0;
+        }
+        if (it.getClass().isArray()) {
+            int below = 0;
+            for (int i = 0; i < Array.getLength(it) && !it.getClass().getComponentType().isPrimitive(); i++) {
+                below += weigh(Array.get(it, i), met);
+            }
+            return Array.getLength(it) + below;
+        }
+        int elements = 0;
+        for (Class<?> which = it.getClass(); which != Object.class; which = which.getSuperclass()) {
+            for (Field field : which.getDeclaredFields()) {
+                if (!Modifier.isStatic(field.getModifiers())) {
+                    elements++;
+                    field.setAccessible(true);
+                    elements += field.getType().isPrimitive() ? 0 : weigh(field.get(it), met);
+                }
+            }
+        }
+        return elements;
+    }
+
     private static void checkFields(Class<?> which) {
         List<Field> own = new ArrayList<>();
         for (Field field : which.getDeclaredFields()) {
@@ -122,11 +168,13 @@ public final class LanguageTest {
         hold(own.size() <= 20, "rule 11: " + own.size() + " fields in " + which);
     }
 
-    public static void main(String[] args) throws IOException {
-        String text = Files.readString(source());
+    public static void main(String[] args) throws IOException, IllegalAccessException {
+        String text = Project.read("src/main/java/BitRecogniser.java");
         checkText(text);
         checkMethodSizes(text);
         checkFace();
+        checkSignatures(Project.read("../shared/DOC.md"));
+        checkRoom();
         System.out.println("LanguageTest: " + wrong + " wrong");
         if (wrong != 0) {
             System.exit(1);
