@@ -337,6 +337,9 @@ public final class PromiseTest extends Sample {
         rule(z, "Bb");
         due("least(0)", z.least(0), 2);
         due("least(2)", z.least(2), 3);
+        due("least of what a rule ahead makes shorter", grammar("", "Bcc", "ABB", "Bcccc").least(0), 4);
+        due("least of what a rule behind makes shorter", grammar("", "Bcccc", "ABB", "Bcc").least(0), 4);
+        due("least of what a unit makes shorter", grammar("", "ABB", "Bcccc", "BC", "Cd").least(0), 2);
     }
 
     private static void reaching() {
