@@ -1084,8 +1084,7 @@ public final class BitRecogniser {
         void measure() {
             measureLengths();
             for (int x = 0; x < NAMES; x++) {
-                clearWays();
-                walk(x, 0, 0);
+                countWays(x, 0);
                 for (int z = 0; z < NAMES; z++) {
                     putInt(ways, x * NAMES + z, intAt(waysOnward, z));
                 }
@@ -1141,23 +1140,24 @@ public final class BitRecogniser {
             return true;
         }
 
-        void clearWays() {
+        /** Into waysOnward: by how many ways units lead from x to each name, no symbol twice nor one of those barred. */
+        void countWays(int x, int barred) {
             for (int z = 0; z < waysOnward.length; z++) {
                 waysOnward[z] = 0;
             }
+            walk(unitSteps, waysOnward, x, barred, 0);
         }
 
-        /** Adds to waysOnward by how many ways units lead from x to each name, no symbol twice nor one of those barred. */
-        void walk(int x, int barred, int depth) {
-            if (depth >= NAMES || x < 0 || x >= NAMES) {
+        private static void walk(int[] steps, int[] arrivals, int x, int barred, int depth) {
+            if (depth >= NAMES || x < 0 || x >= steps.length || x >= arrivals.length) {
                 return;
             }
-            putInt(waysOnward, x, intAt(waysOnward, x) + 1);
+            arrivals[x]++;
             int passed = barred | (1 << x);
-            int steps = intAt(unitSteps, x) & ~passed;
+            int onward = steps[x] & ~passed;
             for (int y = 0; y < NAMES; y++) {
-                if ((steps >>> y & 1) != 0) {
-                    walk(y, passed, depth + 1);
+                if ((onward >>> y & 1) != 0) {
+                    walk(steps, arrivals, y, passed, depth + 1);
                 }
             }
         }
@@ -1536,8 +1536,7 @@ public final class BitRecogniser {
 
         /** Trees of x over a span in which none of those barred comes along the units from x on. */
         long treesWithout(int barred, int x, int i, int j) {
-            binary.clearWays();
-            binary.walk(x, barred, 0);
+            binary.countWays(x, barred);
             int at = slotOf(i, j, alike) * NAMES;
             long all = 0L;
             for (int z = 0; z < NAMES; z++) {

@@ -70,6 +70,15 @@ public final class LanguageTest {
                 end++;
             }
             hold(end - k < 60, "rule 11: " + (end - k + 1) + " lines: " + lines[k].trim());
+            checkRecursion(lines[k].trim(), String.join("\n", Arrays.copyOfRange(lines, k + 1, end)));
+        }
+    }
+
+    private static void checkRecursion(String head, String body) {
+        Matcher name = Pattern.compile("(\\w+)\\(").matcher(head);
+        if (name.find() && Pattern.compile("(?<![.\\w])" + name.group(1) + "\\(").matcher(body).find()) {
+            hold(head.startsWith("private static "), "rule 8: calls itself and is not private and static: " + head);
+            hold(head.contains("int depth"), "rule 8: calls itself and carries no depth: " + head);
         }
     }
 
